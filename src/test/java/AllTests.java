@@ -1,0 +1,10 @@
+/** Runs every test of the project. */
+public final class AllTests {
+    private AllTests() {
+    }
+
+    public static void main(String[] args) {
+        PromiseTests.all();
+        Check.close();
+    }
+}
