@@ -4,7 +4,9 @@ public final class AllTests {
     }
 
     public static void main(String[] args) {
+        FaceTests.all();
         PromiseTests.all();
+        RandomRunTests.all();
         Check.close();
     }
 }

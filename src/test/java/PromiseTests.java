@@ -27,6 +27,8 @@ final class PromiseTests {
         Check.test("promise 9: the order of a tick", PromiseTests::orderOfTick);
         Check.test("promise 9: the last tick", PromiseTests::lastTick);
         Check.test("promise 10: sweep", PromiseTests::sweep);
+        Check.test("promise 10: sweep while others copy", PromiseTests::sweepWithHostages);
+        Check.test("promise 10: sweep of a full table", PromiseTests::fullTableAtWork);
         Check.test("promise 11: cell", PromiseTests::cell);
         Check.test("promise 12: ring", PromiseTests::ring);
         Check.test("promise 13: moveOf", PromiseTests::moveOf);
@@ -47,6 +49,7 @@ final class PromiseTests {
         Check.test("promise 26: runCommands", PromiseTests::runCommands);
         Check.test("promise 26: commands that would throw", PromiseTests::commandsThatWouldThrow);
         Check.test("promise 26: faults", PromiseTests::faults);
+        Check.test("promise 26: texts after other texts", PromiseTests::textsAfterOthers);
         Check.test("promise 27: undo", PromiseTests::undo);
         Check.test("promise 28: digest", PromiseTests::digest);
     }
@@ -450,6 +453,50 @@ final class PromiseTests {
         Check.equal("swept in all", 5, x.whole(12));
     }
 
+    private static void sweepWithHostages() {
+        HostageRings x = twoRings(0);
+        x.set(0, 1);
+        x.move(0, 0, 1, 0, 1);
+        x.move(0, 1, 1, 1, 3);
+        x.move(1, 1, 1, 0, 1);
+        x.pass(2);
+        x.sign(1);
+        Check.undoable("one in front", x, 1, x::sweep);
+        Check.rows("the copying one", Check.row(0, 1, 1, 1, 3, 1, 2, 0, NONE, NONE), moveRow(x, 0));
+        Check.rows("its hostages", Check.row(4, NONE), Check.row(x.hostage(0, 0), x.hostage(0, 1)));
+        Check.equal("its source cells", 0b1110, x.cellSet(0, false));
+        Check.equal("its target cells", 0b11100000, x.cellSet(0, true));
+        Check.rows("finals", Check.row(2, 2, 3, 4), finals(x, 4, 4));
+        Check.equal("it goes on", 1, x.pass(1));
+        Check.equal("and the next", 1, x.pass(1));
+        Check.rows("cells", Check.row(2, 2, 3, 4), cells(x, 4, 4));
+        x.sign(1);
+        x.sign(1);
+        Check.equal("both", 2, x.sweep());
+        x.move(1, 0, 0, 0, 4);
+        x.pass(1);
+        x.undo();
+        Check.equal("a new one in the old place", 0, x.moveOf(0, 5));
+        Check.rows("finals of the new one", Check.row(2, 2, 3, 4), finals(x, 0, 4));
+    }
+
+    private static void fullTableAtWork() {
+        HostageRings x = twoRings(2);
+        x.set(0, 8);
+        x.set(1, 4);
+        for (int move = 0; move < 24; move++) {
+            x.move(move % 2, move % 3, move % 2, 3, 1);
+        }
+        Check.view(x);
+        int copied = 0;
+        for (int tick = 0; tick < 60; tick++) {
+            copied += x.pass(1);
+        }
+        Check.equal("all copied", 24, copied);
+        Check.rows("whole", Check.row(2, 24, 0, 0, 0, 24, 8, 4, 60, 0, 24, 24, 0, x.whole(13), 0), wholes(x));
+        Check.undoable("all swept", x, 24, x::sweep);
+    }
+
     private static void cell() {
         HostageRings x = twoRings(0);
         Check.changesNothing("the first", x, 1, () -> x.cell(0));
@@ -767,18 +814,28 @@ final class PromiseTests {
         x.sign(1);
         Check.equal("signed", 0, x.stuck());
         x.set(0, 1);
-        x.move(1, 1, 1, 2, 2);
-        x.pass(1);
-        x.pass(1);
-        x.move(1, 0, 0, 1, 1);
-        x.move(0, 1, 1, 1, 1);
-        Check.equal("one is copying", 0, x.stuck());
-        x.pass(5);
         x.setPatience(1, 0);
-        Check.equal("stuck behind another", 1, x.stuck());
-        x.undo();
-        x.pass(50);
+        Check.equal("the second can start", 0, x.stuck());
+        x.pass(1);
         Check.equal("none is waiting", 0, x.stuck());
+        x.move(0, 1, 1, 1, 3);
+        x.move(1, 1, 0, 1, 1);
+        x.pass(1);
+        Check.equal("one is copying, none would start", 0, x.stuck());
+        x.pass(1);
+        Check.equal("still copying", 1, x.whole(3));
+        Check.equal("still copying", 0, x.stuck());
+        x.pass(1);
+        Check.equal("then stuck", 1, x.stuck());
+        x.move(1, 3, 0, 2, 1);
+        Check.equal("also behind another hostage", 1, x.stuck());
+        x.sign(0);
+        Check.equal("another ring has signed", 1, x.stuck());
+        x.move(1, 3, 0, 0, 1);
+        Check.equal("to a cell that is free", 0, x.stuck());
+        x.undo();
+        x.sign(1);
+        Check.equal("the ring has signed", 0, x.stuck());
     }
 
     /** Two rings with patience sign within 50 ticks, so only a chain of hostages comes beyond 60. */
@@ -865,8 +922,9 @@ final class PromiseTests {
     }
 
     private static void commandsThatWouldThrow() {
-        String[] texts = {"ring 48 2 0;", "ring 0 1 0;", "ring 3 2 0;", "ring 20 2 51;", "move 2 0 0 0 1;",
-            "move 0 100 0 0 1;", "move 0 0 0 0 5;", "sign 2;", "sign 0;", "sign 999;", "strike 2;", "work 2;",
+        String[] texts = {"ring 48 10 0;", "ring 0 10 0;", "ring 48 2 0;", "ring 0 1 0;", "ring 3 2 0;", "ring 20 2 51;", "move 2 0 0 0 1;",
+            "ring 47 2 0;",
+            "move 0 2 2 0 1;", "move 0 100 0 0 1;", "move 0 0 0 100 1;", "move 0 0 0 0 0;", "move 0 0 0 0 5;", "sign 2;", "sign 0;", "sign 999;", "strike 2;", "work 2;",
             "work 0;", "put 48 0;", "put 999 999;", "set 2 1;", "set 0 0;", "set 0 9;", "set 1 5;", "ticks 0;",
             "ticks 51;", "ticks 999;"};
         for (String text : texts) {
@@ -904,7 +962,8 @@ final class PromiseTests {
             "   set   0   1   ;   ", "ok", "move 0 0 0 0;", "12", "move 0 0 0 0 0;", "ok", "set 1 1;x", "8",
             "{", "0", "`", "0", "put{0 1;", "3", "put 0 /;", "6", "put 0 :;", "6", "put 1:1;", "5", "putz 0 1;", "0",
             "strik 0;", "0", "ring 0 2 0:", "10", "pu t 0 1;", "0", "put 0 1 2;", "8", "put 12 345 ;", "ok",
-            "put 0 \0", "6", "sign 1;sign 2;sing 3;", "14"};
+            "put 0 \0", "6", "sign 1;sign 2;sing 3;", "14",
+            "ring ;x", "5", "put 1;2 3;", "5", "put 1x;", "5"};
         for (int k = 0; k < texts.length; k += 2) {
             HostageRings x = new HostageRings();
             int answer = Check.run(x, texts[k]);
@@ -918,6 +977,18 @@ final class PromiseTests {
                 Check.equal("the text stays", texts[k].length(), x.whole(14));
             }
         }
+    }
+
+    private static void textsAfterOthers() {
+        HostageRings x = new HostageRings();
+        String[] texts = {"rings 0 2 0;", "-10", "ring", "-14", "put 0 123;", "1", "put 0 12", "-18", "put 0 1;", "1",
+            "put 0 1", "-17", "put", "-13", "put 0 45 ;", "1", "put 0 45 ", "-19", "", "0", "put 1 1;;", "-18",
+            "put 1 1;", "1"};
+        for (int k = 0; k < texts.length; k += 2) {
+            Check.equal("'" + texts[k] + "'", Integer.parseInt(texts[k + 1]), Check.run(x, texts[k]));
+        }
+        Check.rows("cells", Check.row(45, 1), cells(x, 0, 2));
+        Check.equal("states", 4, Check.states(x));
     }
 
     private static void undo() {
@@ -960,6 +1031,23 @@ final class PromiseTests {
         Check.rows("with its hostages", copying, Check.view(y));
         y.undo();
         Check.rows("before it started", before, Check.view(y));
+        HostageRings z = twoRings(0);
+        z.move(0, 0, 1, 0, 4);
+        z.pass(1);
+        long[] hostages = Check.view(z);
+        z.undo();
+        z.undo();
+        z.undo();
+        Check.equal("other values in between", 4, z.write(3, -5));
+        z.undo();
+        z.addRing(4, 4, 0);
+        z.move(1, 0, 0, 0, 4);
+        z.pass(1);
+        z.undo();
+        z.undo();
+        z.move(0, 0, 1, 0, 4);
+        z.pass(1);
+        Check.rows("the same calls again", hostages, Check.view(z));
         Check.equal("it goes on from there", 1, y.pass(2));
         Check.rows("cells", Check.row(1, 2, 3, 4), cells(y, 4, 4));
     }
