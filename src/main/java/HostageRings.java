@@ -638,29 +638,25 @@ public final class HostageRings {
 
         /** The reason why a cell cannot be written by hand, 0 if there is none. */
         int barOf(int cell) {
-            long held = 0;
+            long bit = 1L << cell;
+            if ((heldCells() & bit) != 0) {
+                return 1;
+            }
             long awaited = 0;
-            long underway = 0;
+            long overwritten = 0;
             for (int number = 0; number < moveCount; number++) {
                 Move move = moves[number];
-                if (move.holds()) {
-                    held |= move.sources;
-                }
                 if (move.phase == WAITING) {
                     awaited |= move.sources | move.targets;
                 }
                 if (move.phase == COPYING) {
-                    underway |= move.targets;
+                    overwritten |= move.targets;
                 }
-            }
-            long bit = 1L << cell;
-            if ((held & bit) != 0) {
-                return 1;
             }
             if ((awaited & bit) != 0) {
                 return 2;
             }
-            return (underway & bit) != 0 ? 3 : 0;
+            return (overwritten & bit) != 0 ? 3 : 0;
         }
 
         int moveRefusal(int from, int fromPlace, int to, int toPlace, int count) {
@@ -761,15 +757,12 @@ public final class HostageRings {
         void startMoves() {
             int copying = countIn(COPYING);
             for (int number = 0; number < moveCount; number++) {
-                if (copying < lanes && canStart(number)) {
-                    start(moves[number]);
+                Move move = moves[number];
+                if (copying < lanes && move.phase == WAITING && waitedFor(number) == 0) {
+                    start(move);
                     copying++;
                 }
             }
-        }
-
-        boolean canStart(int number) {
-            return moves[number].phase == WAITING && waitedFor(number) == 0;
         }
 
         void start(Move move) {
