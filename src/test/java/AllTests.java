@@ -6,6 +6,11 @@ public final class AllTests {
     public static void main(String[] args) {
         FaceTests.all();
         PromiseTests.all();
+        RingBoundaries.all();
+        MoveBoundaries.all();
+        TickBoundaries.all();
+        QuestionBoundaries.all();
+        TextBoundaries.all();
         RandomRunTests.all();
         Check.close();
     }

@@ -12,6 +12,8 @@ final class Check {
         void run();
     }
 
+    private static final int MOST_SAVED = 4;
+
     private static int passed = 0;
     private static int failed = 0;
     private static boolean holds = true;
@@ -68,9 +70,18 @@ final class Check {
         }
     }
 
-    /** The call throws just this exception and leaves the object as it was. */
-    static void refused(String what, HostageRings x, Class<? extends RuntimeException> due, Call call) {
-        long before = x.digest();
+    private static void sameViews(String what, List<long[]> due, List<long[]> got) {
+        equal(what + ": states", due.size(), got.size());
+        for (int k = 0; k < Math.min(due.size(), got.size()); k++) {
+            rows(what + ": view after " + k + " undos", due.get(k), got.get(k));
+        }
+    }
+
+    /** The call throws just this exception and leaves all as it was: the state, the saved states, the text. */
+    static void refused(String what, Engine x, Class<? extends RuntimeException> due, Call call) {
+        List<long[]> views = views(x);
+        long digest = x.see(o -> o.digest());
+        long[] text = x.textAtWork();
         try {
             long got = call.run();
             complain(what + " answered " + got + ", due is " + due.getSimpleName());
@@ -79,59 +90,97 @@ final class Check {
                 complain(what + " threw " + e + ", due is " + due.getSimpleName());
             }
         }
-        equal(what + ": digest after the exception", before, x.digest());
+        sameAsBefore(what, x, views, digest, text);
     }
 
-    /** The call answers as due, saves one state, and undo brings back what was before it; then it is done anew. */
-    static void undoable(String what, HostageRings x, long due, Call call) {
-        long[] before = view(x);
-        int states = states(x);
+    /** The call answers as due, and neither the state nor the saved states nor the text change. */
+    static void changesNothing(String what, Engine x, long due, Call call) {
+        List<long[]> views = views(x);
+        long digest = x.see(o -> o.digest());
+        long[] text = x.textAtWork();
         equal(what, due, call.run());
-        long[] after = view(x);
-        equal(what + ": states left by undo", Math.min(states + 1, 4) - 1, x.undo());
-        rows(what + ": view after undo", before, view(x));
-        equal(what + " called again", due, call.run());
-        rows(what + ": view when called again", after, view(x));
+        sameAsBefore(what, x, views, digest, text);
     }
 
-    /** Neither the state nor the undo stack changes. */
-    static void changesNothing(String what, HostageRings x, long due, Call call) {
-        long before = x.digest();
+    private static void sameAsBefore(String what, Engine x, List<long[]> views, long digest, long[] text) {
+        equal(what + ": digest after it", digest, x.see(o -> o.digest()));
+        sameViews(what + ": what was before", views, views(x));
+        rows(what + ": the text at work", text, x.textAtWork());
+    }
+
+    /** The call answers as due and saves the state from before it; undone and called again, it does the same. */
+    static void undoable(String what, Engine x, long due, Call call) {
+        List<long[]> before = views(x);
         equal(what, due, call.run());
-        equal(what + ": digest after it", before, x.digest());
+        List<long[]> after = views(x);
+        sameViews(what + ": undone", before.subList(0, Math.min(before.size(), MOST_SAVED)),
+                after.subList(1, after.size()));
+        sameViews(what + ": undone and called again", after, views(x.undoneAndDoneAgain()));
+    }
+
+    /** All that can be seen of an object, then the same after each undo, as many as there are saved states. */
+    private static List<long[]> views(Engine x) {
+        List<long[]> views = new ArrayList<>();
+        int states = x.states();
+        for (int undos = 0; undos <= states; undos++) {
+            views.add(view(x, undos));
+        }
+        return views;
     }
 
     /** All that can be seen but the height of the undo stack. */
-    static long[] view(HostageRings x) {
+    static long[] view(Engine x) {
+        return view(x, 0);
+    }
+
+    private static long[] view(Engine x, int undos) {
         List<Long> all = new ArrayList<>();
-        for (int what = 0; what <= 14; what++) {
-            all.add((long) x.whole(what));
+        for (int k = 0; k <= 14; k++) {
+            int what = k;
+            all.add(x.see(undos, o -> o.whole(what)));
         }
-        for (int cell = 0; cell < 48; cell++) {
-            all.add((long) x.cell(cell));
-            all.add((long) x.finalValue(cell));
-            all.add((long) x.reason(cell));
+        all.add(x.see(undos, o -> o.held()));
+        all.add(x.see(undos, o -> o.stuck()));
+        long rings = all.get(0);
+        long moves = all.get(1);
+        for (int k = 0; k < 48; k++) {
+            int cell = k;
+            all.add(x.see(undos, o -> o.cell(cell)));
+            all.add(x.see(undos, o -> o.finalValue(cell)));
+            all.add(x.see(undos, o -> o.reason(cell)));
         }
-        for (int ring = 0; ring < x.whole(0); ring++) {
-            for (int what = 0; what <= 7; what++) {
-                all.add((long) x.ring(ring, what));
+        for (int k = 0; k < rings; k++) {
+            int ring = k;
+            for (int w = 0; w <= 7; w++) {
+                int what = w;
+                all.add(x.see(undos, o -> o.ring(ring, what)));
             }
         }
-        for (int move = 0; move < x.whole(1); move++) {
-            for (int what = 0; what <= 9; what++) {
-                all.add((long) x.moveOf(move, what));
-            }
-            for (int index = 0; index < 16; index++) {
-                all.add((long) x.hostage(move, index));
-            }
-            all.add(x.cellSet(move, false));
-            all.add(x.cellSet(move, true));
-            all.add((long) x.waitsFor(move));
-            all.add((long) x.depth(move));
-            all.add((long) x.copiedIn(move));
+        for (int k = 0; k < moves; k++) {
+            viewMove(all, x, undos, k);
         }
-        all.add(x.held());
-        all.add((long) x.stuck());
+        return asRow(all);
+    }
+
+    private static void viewMove(List<Long> all, Engine x, int undos, int move) {
+        for (int w = 0; w <= 9; w++) {
+            int what = w;
+            all.add(x.see(undos, o -> o.moveOf(move, what)));
+        }
+        long got = 0;
+        for (int k = 0; k <= 16 && got != HostageRings.NONE; k++) {
+            int index = k;
+            got = x.see(undos, o -> o.hostage(move, index));
+            all.add(got);
+        }
+        all.add(x.see(undos, o -> o.cellSet(move, false)));
+        all.add(x.see(undos, o -> o.cellSet(move, true)));
+        all.add(x.see(undos, o -> o.waitsFor(move)));
+        all.add(x.see(undos, o -> o.depth(move)));
+        all.add(x.see(undos, o -> o.copiedIn(move)));
+    }
+
+    private static long[] asRow(List<Long> all) {
         long[] row = new long[all.size()];
         for (int i = 0; i < row.length; i++) {
             row[i] = all.get(i);
@@ -140,51 +189,57 @@ final class Check {
     }
 
     /** The digest as the document builds it, from the other answers, for a height of the undo stack. */
-    static long digestOf(HostageRings x, int states) {
+    static long digestOf(Engine x, int states) {
         long h = 31 * 43476L + states;
-        for (int what = 0; what <= 14; what++) {
-            h = 31 * h + x.whole(what);
+        for (int k = 0; k <= 14; k++) {
+            int what = k;
+            h = 31 * h + x.see(o -> o.whole(what));
         }
-        for (int cell = 0; cell <= 47; cell++) {
-            h = 31 * (31 * h + x.cell(cell)) + x.finalValue(cell);
+        for (int k = 0; k <= 47; k++) {
+            int cell = k;
+            h = 31 * h + x.see(o -> o.cell(cell));
+            h = 31 * h + x.see(o -> o.finalValue(cell));
         }
-        for (int ring = 0; ring < x.whole(0); ring++) {
-            for (int what = 0; what <= 7; what++) {
-                h = 31 * h + x.ring(ring, what);
+        long rings = x.see(o -> o.whole(0));
+        for (int k = 0; k < rings; k++) {
+            int ring = k;
+            for (int w = 0; w <= 7; w++) {
+                int what = w;
+                h = 31 * h + x.see(o -> o.ring(ring, what));
             }
         }
-        for (int move = 0; move < x.whole(1); move++) {
-            for (int what = 0; what <= 9; what++) {
-                h = 31 * h + x.moveOf(move, what);
-            }
-            for (int index = 0; x.hostage(move, index) != HostageRings.NONE; index++) {
-                h = 31 * h + x.hostage(move, index);
-            }
-            h = 31 * (31 * h + x.waitsFor(move)) + x.depth(move);
+        long moves = x.see(o -> o.whole(1));
+        for (int move = 0; move < moves; move++) {
+            h = digestOfMove(h, x, move);
         }
-        return 31 * h + x.held();
+        return 31 * h + x.see(o -> o.held());
     }
 
-    /** The height of the undo stack, which the digest alone tells. */
-    static int states(HostageRings x) {
-        long digest = x.digest();
-        for (int states = 0; states <= 4; states++) {
-            if (digestOf(x, states) == digest) {
-                return states;
+    private static long digestOfMove(long start, Engine x, int move) {
+        long h = start;
+        for (int w = 0; w <= 9; w++) {
+            int what = w;
+            h = 31 * h + x.see(o -> o.moveOf(move, what));
+        }
+        for (int k = 0; k < 16; k++) {
+            int index = k;
+            long hostage = x.see(o -> o.hostage(move, index));
+            if (hostage != HostageRings.NONE) {
+                h = 31 * h + hostage;
             }
         }
-        complain("the digest fits no height of the undo stack");
-        return -1;
+        h = 31 * h + x.see(o -> o.waitsFor(move));
+        return 31 * h + x.see(o -> o.depth(move));
     }
 
-    static void type(HostageRings x, String text) {
+    static void type(Engine x, String text) {
         for (int i = 0; i < text.length(); i++) {
             x.type(text.charAt(i));
         }
     }
 
     /** The answer to a text that stands alone in the command text. */
-    static int run(HostageRings x, String text) {
+    static int run(Engine x, String text) {
         x.clearCommands();
         type(x, text);
         return x.runCommands();

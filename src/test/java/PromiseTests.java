@@ -47,6 +47,7 @@ final class PromiseTests {
         Check.test("promise 24: type", PromiseTests::type);
         Check.test("promise 25: clearCommands", PromiseTests::clearCommands);
         Check.test("promise 26: runCommands", PromiseTests::runCommands);
+        Check.test("promise 26: the most commands", PromiseTests::mostCommands);
         Check.test("promise 26: commands that would throw", PromiseTests::commandsThatWouldThrow);
         Check.test("promise 26: faults", PromiseTests::faults);
         Check.test("promise 26: texts after other texts", PromiseTests::textsAfterOthers);
@@ -55,8 +56,8 @@ final class PromiseTests {
     }
 
     /** Two rings of four cells with the values 1 to 8: ring 0 on the cells 0 to 3, ring 1 on 4 to 7. */
-    private static HostageRings twoRings(int patience) {
-        HostageRings x = new HostageRings();
+    private static Engine twoRings(int patience) {
+        Engine x = new Engine();
         for (int cell = 0; cell < 8; cell++) {
             x.write(cell, cell + 1);
         }
@@ -65,7 +66,7 @@ final class PromiseTests {
         return x;
     }
 
-    private static long[] cells(HostageRings x, int first, int count) {
+    private static long[] cells(Engine x, int first, int count) {
         long[] row = new long[count];
         for (int k = 0; k < count; k++) {
             row[k] = x.cell(first + k);
@@ -73,7 +74,7 @@ final class PromiseTests {
         return row;
     }
 
-    private static long[] finals(HostageRings x, int first, int count) {
+    private static long[] finals(Engine x, int first, int count) {
         long[] row = new long[count];
         for (int k = 0; k < count; k++) {
             row[k] = x.finalValue(first + k);
@@ -81,7 +82,7 @@ final class PromiseTests {
         return row;
     }
 
-    private static long[] wholes(HostageRings x) {
+    private static long[] wholes(Engine x) {
         long[] row = new long[15];
         for (int what = 0; what < 15; what++) {
             row[what] = x.whole(what);
@@ -89,7 +90,7 @@ final class PromiseTests {
         return row;
     }
 
-    private static long[] ringRow(HostageRings x, int ring) {
+    private static long[] ringRow(Engine x, int ring) {
         long[] row = new long[8];
         for (int what = 0; what < 8; what++) {
             row[what] = x.ring(ring, what);
@@ -97,7 +98,7 @@ final class PromiseTests {
         return row;
     }
 
-    private static long[] moveRow(HostageRings x, int move) {
+    private static long[] moveRow(Engine x, int move) {
         long[] row = new long[10];
         for (int what = 0; what < 10; what++) {
             row[what] = x.moveOf(move, what);
@@ -106,7 +107,7 @@ final class PromiseTests {
     }
 
     private static void newObject() {
-        HostageRings x = new HostageRings();
+        Engine x = new Engine();
         Check.rows("whole", Check.row(0, 0, 0, 0, 0, 0, 2, 2, 0, 0, 0, 0, 0, 0, 0), wholes(x));
         Check.rows("cells", new long[48], cells(x, 0, 48));
         Check.equal("stuck", 0, x.stuck());
@@ -118,7 +119,7 @@ final class PromiseTests {
     }
 
     private static void addRing() {
-        HostageRings x = new HostageRings();
+        Engine x = new Engine();
         Check.undoable("the first cells", x, 0, () -> x.addRing(0, 2, 0));
         Check.undoable("the last cells", x, 1, () -> x.addRing(32, 16, 50));
         Check.rows("ring 0", Check.row(0, 2, 0, 0, 0, 0, 0, 0), ringRow(x, 0));
@@ -145,7 +146,7 @@ final class PromiseTests {
     }
 
     private static void addRingToFullTable() {
-        HostageRings x = new HostageRings();
+        Engine x = new Engine();
         for (int ring = 0; ring < 6; ring++) {
             Check.equal("number", ring, x.addRing(2 * ring, 2, ring));
         }
@@ -158,7 +159,7 @@ final class PromiseTests {
     }
 
     private static void setPatience() {
-        HostageRings x = twoRings(3);
+        Engine x = twoRings(3);
         Check.undoable("the greatest", x, 3, () -> x.setPatience(0, 50));
         Check.equal("patience of ring 0", 50, x.ring(0, 2));
         Check.equal("patience of ring 1", 3, x.ring(1, 2));
@@ -175,7 +176,7 @@ final class PromiseTests {
     }
 
     private static void set() {
-        HostageRings x = new HostageRings();
+        Engine x = new Engine();
         Check.undoable("speed", x, 2, () -> x.set(0, 8));
         Check.undoable("lanes", x, 2, () -> x.set(1, 4));
         Check.equal("speed as it is", 8, x.whole(6));
@@ -195,7 +196,7 @@ final class PromiseTests {
     }
 
     private static void settingsAtWork() {
-        HostageRings x = new HostageRings();
+        Engine x = new Engine();
         for (int ring = 0; ring < 6; ring++) {
             x.addRing(8 * ring, 8, 0);
         }
@@ -224,7 +225,7 @@ final class PromiseTests {
     }
 
     private static void write() {
-        HostageRings x = new HostageRings();
+        Engine x = new Engine();
         Check.undoable("the first cell", x, 0, () -> x.write(0, -999));
         Check.undoable("the last cell", x, 0, () -> x.write(47, 999));
         Check.undoable("the same value", x, -999, () -> x.write(0, -999));
@@ -254,7 +255,7 @@ final class PromiseTests {
     }
 
     private static void move() {
-        HostageRings x = new HostageRings();
+        Engine x = new Engine();
         x.addRing(0, 5, 0);
         x.addRing(8, 16, 0);
         Check.undoable("with the least numbers", x, 0, () -> x.move(0, 0, 1, 0, 1));
@@ -280,7 +281,7 @@ final class PromiseTests {
     }
 
     private static void moveToFullTable() {
-        HostageRings x = twoRings(0);
+        Engine x = twoRings(0);
         for (int move = 0; move < 24; move++) {
             Check.equal("number", move, x.move(move % 2, move, (move + 1) % 2, move, 1));
         }
@@ -298,7 +299,7 @@ final class PromiseTests {
     }
 
     private static void sign() {
-        HostageRings x = twoRings(0);
+        Engine x = twoRings(0);
         x.move(0, 0, 0, 2, 1);
         x.move(0, 1, 1, 0, 1);
         x.move(0, 1, 1, 1, 1);
@@ -320,7 +321,7 @@ final class PromiseTests {
     }
 
     private static void strike() {
-        HostageRings x = twoRings(1);
+        Engine x = twoRings(1);
         x.move(0, 0, 1, 0, 1);
         x.move(0, 1, 1, 1, 1);
         x.move(0, 2, 0, 3, 1);
@@ -344,7 +345,7 @@ final class PromiseTests {
     }
 
     private static void pass() {
-        HostageRings x = twoRings(0);
+        Engine x = twoRings(0);
         x.move(0, 2, 1, 3, 3);
         x.move(1, 2, 0, 1, 1);
         Check.undoable("one tick", x, 1, () -> x.pass(1));
@@ -361,7 +362,7 @@ final class PromiseTests {
     }
 
     private static void patience() {
-        HostageRings x = new HostageRings();
+        Engine x = new Engine();
         x.addRing(0, 2, 0);
         x.addRing(2, 2, 1);
         x.addRing(4, 2, 2);
@@ -383,7 +384,7 @@ final class PromiseTests {
     }
 
     private static void orderOfTick() {
-        HostageRings x = twoRings(1);
+        Engine x = twoRings(1);
         x.move(0, 0, 1, 0, 2);
         x.move(0, 2, 0, 0, 2);
         x.move(0, 2, 1, 2, 2);
@@ -396,14 +397,14 @@ final class PromiseTests {
                 Check.row(x.moveOf(0, 7), x.moveOf(0, 8), x.moveOf(0, 9), x.moveOf(1, 7), x.moveOf(1, 8),
                         x.moveOf(1, 9), x.moveOf(3, 7), x.moveOf(3, 8)));
         Check.rows("cells", Check.row(3, 4, 3, 4, 1, 2, 3, 1), cells(x, 0, 8));
-        HostageRings y = twoRings(0);
+        Engine y = twoRings(0);
         y.move(0, 0, 0, 1, 4);
         y.pass(2);
         Check.rows("a ring that turns keeps all values", Check.row(4, 1, 2, 3), cells(y, 0, 4));
     }
 
     private static void lastTick() {
-        HostageRings x = twoRings(0);
+        Engine x = twoRings(0);
         for (int k = 0; k < 199; k++) {
             x.pass(50);
         }
@@ -422,7 +423,7 @@ final class PromiseTests {
     }
 
     private static void sweep() {
-        HostageRings x = twoRings(0);
+        Engine x = twoRings(0);
         Check.undoable("without moves", x, 0, x::sweep);
         x.set(1, 4);
         x.move(0, 0, 0, 1, 1);
@@ -454,7 +455,7 @@ final class PromiseTests {
     }
 
     private static void sweepWithHostages() {
-        HostageRings x = twoRings(0);
+        Engine x = twoRings(0);
         x.set(0, 1);
         x.move(0, 0, 1, 0, 1);
         x.move(0, 1, 1, 1, 3);
@@ -481,7 +482,7 @@ final class PromiseTests {
     }
 
     private static void fullTableAtWork() {
-        HostageRings x = twoRings(2);
+        Engine x = twoRings(2);
         x.set(0, 8);
         x.set(1, 4);
         for (int move = 0; move < 24; move++) {
@@ -498,7 +499,7 @@ final class PromiseTests {
     }
 
     private static void cell() {
-        HostageRings x = twoRings(0);
+        Engine x = twoRings(0);
         Check.changesNothing("the first", x, 1, () -> x.cell(0));
         x.write(47, -7);
         Check.changesNothing("the last", x, -7, () -> x.cell(47));
@@ -508,7 +509,7 @@ final class PromiseTests {
     }
 
     private static void ring() {
-        HostageRings x = twoRings(9);
+        Engine x = twoRings(9);
         x.move(0, 0, 1, 0, 1);
         x.move(0, 1, 1, 1, 1);
         x.move(1, 2, 0, 2, 2);
@@ -532,7 +533,7 @@ final class PromiseTests {
     }
 
     private static void moveOf() {
-        HostageRings x = twoRings(0);
+        Engine x = twoRings(0);
         x.pass(5);
         x.move(1, 98, 0, 7, 3);
         Check.rows("waiting", Check.row(1, 98, 0, 7, 3, 0, 0, NONE, NONE, NONE), moveRow(x, 0));
@@ -554,7 +555,7 @@ final class PromiseTests {
     }
 
     private static void hostage() {
-        HostageRings x = twoRings(0);
+        Engine x = twoRings(0);
         x.set(0, 1);
         x.move(0, 2, 1, 0, 4);
         Check.changesNothing("waiting", x, NONE, () -> x.hostage(0, 0));
@@ -579,7 +580,7 @@ final class PromiseTests {
     }
 
     private static void cellSet() {
-        HostageRings x = new HostageRings();
+        Engine x = new Engine();
         x.addRing(0, 16, 0);
         x.addRing(43, 5, 0);
         x.move(0, 14, 1, 3, 4);
@@ -600,7 +601,7 @@ final class PromiseTests {
     }
 
     private static void held() {
-        HostageRings x = new HostageRings();
+        Engine x = new Engine();
         x.addRing(44, 4, 0);
         x.addRing(0, 4, 0);
         x.move(0, 1, 1, 0, 3);
@@ -618,7 +619,7 @@ final class PromiseTests {
     }
 
     private static void whole() {
-        HostageRings x = twoRings(0);
+        Engine x = twoRings(0);
         x.set(0, 1);
         x.set(1, 3);
         x.move(0, 0, 1, 0, 1);
@@ -640,7 +641,7 @@ final class PromiseTests {
     }
 
     private static void reason() {
-        HostageRings x = new HostageRings();
+        Engine x = new Engine();
         x.addRing(0, 4, 0);
         x.addRing(4, 4, 0);
         x.addRing(44, 4, 0);
@@ -668,7 +669,7 @@ final class PromiseTests {
     }
 
     private static void waitsFor() {
-        HostageRings x = new HostageRings();
+        Engine x = new Engine();
         x.addRing(0, 8, 0);
         x.addRing(8, 8, 0);
         x.addRing(40, 8, 0);
@@ -692,7 +693,7 @@ final class PromiseTests {
                 Check.row(x.waitsFor(0), x.waitsFor(1), x.waitsFor(2), x.waitsFor(3)));
         x.sign(1);
         Check.equal("when signed", 0, x.waitsFor(1));
-        HostageRings y = twoRings(0);
+        Engine y = twoRings(0);
         y.move(0, 0, 1, 0, 1);
         y.move(0, 1, 1, 1, 1);
         y.move(0, 2, 1, 0, 2);
@@ -702,7 +703,7 @@ final class PromiseTests {
     }
 
     private static void depth() {
-        HostageRings x = twoRings(0);
+        Engine x = twoRings(0);
         for (int move = 0; move < 24; move++) {
             x.move(0, 0, 1, 0, 1);
         }
@@ -712,7 +713,7 @@ final class PromiseTests {
         Check.equal("a copied one", 0, x.depth(0));
         Check.equal("the next", 0, x.depth(1));
         Check.equal("the deepest then", 22, x.depth(23));
-        HostageRings y = twoRings(0);
+        Engine y = twoRings(0);
         y.move(0, 0, 1, 0, 1);
         y.move(1, 0, 1, 1, 1);
         y.move(0, 2, 1, 2, 1);
@@ -729,7 +730,7 @@ final class PromiseTests {
     }
 
     private static void finalValue() {
-        HostageRings x = twoRings(0);
+        Engine x = twoRings(0);
         Check.rows("without moves", Check.row(1, 2, 3, 4, 5, 6, 7, 8), finals(x, 0, 8));
         x.set(0, 1);
         x.set(1, 1);
@@ -757,7 +758,7 @@ final class PromiseTests {
     }
 
     private static void copiedIn() {
-        HostageRings x = twoRings(2);
+        Engine x = twoRings(2);
         x.set(0, 1);
         x.move(0, 0, 1, 0, 4);
         x.move(1, 3, 0, 0, 2);
@@ -773,7 +774,7 @@ final class PromiseTests {
         x.pass(2);
         Check.equal("signed", 0, x.copiedIn(0));
         Check.equal("started in this tick", 1, x.copiedIn(1));
-        HostageRings y = twoRings(0);
+        Engine y = twoRings(0);
         y.move(0, 0, 1, 0, 1);
         y.move(1, 0, 0, 0, 1);
         Check.equal("never", NONE, y.copiedIn(1));
@@ -784,7 +785,7 @@ final class PromiseTests {
 
     /** A chain in which each move waits until the one before it is signed, fifty ticks after it is copied. */
     private static void copiedInAtBound() {
-        HostageRings x = twoRings(50);
+        Engine x = twoRings(50);
         for (int move = 0; move < 7; move++) {
             x.move(move % 2, 0, (move + 1) % 2, 0, 1);
         }
@@ -798,7 +799,7 @@ final class PromiseTests {
     }
 
     private static void stuck() {
-        HostageRings x = twoRings(0);
+        Engine x = twoRings(0);
         Check.changesNothing("no moves", x, 0, x::stuck);
         x.move(0, 0, 1, 0, 1);
         x.move(1, 0, 0, 0, 1);
@@ -840,7 +841,7 @@ final class PromiseTests {
 
     /** Two rings with patience sign within 50 ticks, so only a chain of hostages comes beyond 60. */
     private static void stuckAtBound() {
-        HostageRings x = twoRings(50);
+        Engine x = twoRings(50);
         x.set(1, 1);
         x.move(0, 0, 1, 0, 1);
         x.move(1, 0, 0, 0, 1);
@@ -855,7 +856,7 @@ final class PromiseTests {
     }
 
     private static void type() {
-        HostageRings x = new HostageRings();
+        Engine x = new Engine();
         Check.equal("the least byte", 1, x.type(0));
         Check.equal("the greatest byte", 2, x.type(127));
         for (int value : new int[] {-1, 128, LEAST, GREATEST}) {
@@ -872,7 +873,7 @@ final class PromiseTests {
     }
 
     private static void clearCommands() {
-        HostageRings x = new HostageRings();
+        Engine x = new Engine();
         Check.equal("empty", 0, x.clearCommands());
         Check.type(x, "put 0 1;");
         Check.equal("its length", 8, x.clearCommands());
@@ -885,10 +886,10 @@ final class PromiseTests {
     }
 
     private static void runCommands() {
-        HostageRings x = new HostageRings();
+        Engine x = new Engine();
         Check.type(x, "ring 0 4 3;ring 4 005 0 ;  put 2 999; set 1 1;move 0 2 1 4 2;strike 1;");
         Check.undoable("all but ticks and sign", x, 6, x::runCommands);
-        Check.equal("states", 1, Check.states(x));
+        Check.equal("states", 1, x.states());
         Check.equal("the text stays", 70, x.whole(14));
         Check.rows("ring 0", Check.row(0, 4, 3, 0, 1, 0, 0, 999), ringRow(x, 0));
         Check.rows("ring 1", Check.row(4, 5, 0, 1, 0, 1, 0, 0), ringRow(x, 1));
@@ -900,40 +901,45 @@ final class PromiseTests {
         Check.undoable("the same text again: no strike", x, 1, x::runCommands);
         Check.equal("undo keeps the text", 39, x.whole(14));
         for (String empty : new String[] {"", " ", "     "}) {
-            HostageRings y = new HostageRings();
+            Engine y = new Engine();
             Check.equal("no commands", 0, Check.run(y, empty));
             Check.equal("a state is saved", 0, y.undo());
             Check.refused("one alone", y, NOT_NOW, y::undo);
         }
-        HostageRings z = new HostageRings();
+        Engine z = new Engine();
         Check.equal("ticks", 16, Check.run(z, "ticks 50;".repeat(16)));
         Check.equal("tick", 800, z.whole(8));
         Check.equal("a text of 150 bytes", 18, Check.run(z, "put 0 1;".repeat(18) + "      "));
-        z.addRing(0, 2, 0);
-        z.set(1, 1);
+    }
+
+    private static void mostCommands() {
+        Engine x = new Engine();
+        x.addRing(0, 2, 0);
+        x.set(1, 1);
         for (int move = 0; move < 21; move++) {
-            z.move(0, 0, 0, 1, 1);
+            x.move(0, 0, 0, 1, 1);
         }
-        z.pass(21);
-        Check.equal("the most commands", 21, Check.run(z, "sign 0;".repeat(21)));
-        Check.equal("all signed", 21, z.whole(5));
-        Check.equal("with a fault behind the most commands", -157, Check.run(z, "sign 0;".repeat(21) + "s"));
-        Check.equal("with a fault in the last byte", -159, Check.run(z, "put 0 1;".repeat(18) + "     ;"));
+        x.pass(21);
+        Check.equal("the most commands", 21, Check.run(x, "sign 0;".repeat(21)));
+        Check.equal("all signed", 21, x.whole(5));
+        Check.equal("with a fault behind the most commands", -157, Check.run(x, "sign 0;".repeat(21) + "s"));
+        Check.equal("with a fault in the last byte", -159,
+                Check.run(new Engine(), "put 0 1;".repeat(18) + "     ;"));
     }
 
     private static void commandsThatWouldThrow() {
-        String[] texts = {"ring 48 10 0;", "ring 0 10 0;", "ring 48 2 0;", "ring 0 1 0;", "ring 3 2 0;", "ring 20 2 51;", "move 2 0 0 0 1;",
-            "ring 47 2 0;",
-            "move 0 2 2 0 1;", "move 0 100 0 0 1;", "move 0 0 0 100 1;", "move 0 0 0 0 0;", "move 0 0 0 0 5;", "sign 2;", "sign 0;", "sign 999;", "strike 2;", "work 2;",
-            "work 0;", "put 48 0;", "put 999 999;", "set 2 1;", "set 0 0;", "set 0 9;", "set 1 5;", "ticks 0;",
-            "ticks 51;", "ticks 999;"};
+        String[] texts = {"ring 48 10 0;", "ring 0 10 0;", "ring 48 2 0;", "ring 0 1 0;", "ring 3 2 0;",
+            "ring 20 2 51;", "ring 47 2 0;", "move 2 0 0 0 1;", "move 0 2 2 0 1;", "move 0 100 0 0 1;",
+            "move 0 0 0 100 1;", "move 0 0 0 0 0;", "move 0 0 0 0 5;", "sign 2;", "sign 0;", "sign 999;", "strike 2;",
+            "work 2;", "work 0;", "put 48 0;", "put 999 999;", "set 2 1;", "set 0 0;", "set 0 9;", "set 1 5;",
+            "ticks 0;", "ticks 51;", "ticks 999;"};
         for (String text : texts) {
-            HostageRings x = twoRings(0);
+            Engine x = twoRings(0);
             Check.equal(text, 0, Check.run(x, text));
             Check.equal(text + " after another", 1, Check.run(x, "put 9 8;" + text + "put 10 9;"));
             Check.rows(text + ": what stays done", Check.row(8, 0), cells(x, 9, 2));
         }
-        HostageRings x = twoRings(0);
+        Engine x = twoRings(0);
         Check.equal("to a strike", 1, Check.run(x, "strike 0;strike 0;"));
         Check.equal("no value that is too great stands in three digits", 1, Check.run(x, "put 20 999;"));
         Check.equal("a cell of a move", 1, Check.run(x, "move 0 0 1 0 1;put 0 1;"));
@@ -941,8 +947,8 @@ final class PromiseTests {
             x.move(0, 0, 1, 0, 1);
         }
         Check.equal("a full table", 0, Check.run(x, "move 0 0 1 0 1;"));
-        Check.equal("a state is saved also then", 4, Check.states(x));
-        HostageRings y = new HostageRings();
+        Check.equal("a state is saved also then", 4, x.states());
+        Engine y = new Engine();
         for (int k = 0; k < 199; k++) {
             y.pass(50);
         }
@@ -952,8 +958,8 @@ final class PromiseTests {
 
     private static void faults() {
         String[] texts = {
-            "rin", "0", "rings 0 2 0;", "0", "r", "0", "  ri ", "2", "put 0 1; wor", "9", "worked", "0", "abc def;", "0",
-            "ring", "4", "ring ", "5", "ring 0", "6", "ring 0 2 0", "10", "ring 0 2 0 ", "11", "ring;", "4",
+            "rin", "0", "rings 0 2 0;", "0", "r", "0", "  ri ", "2", "put 0 1; wor", "9", "worked", "0",
+            "abc def;", "0", "ring", "4", "ring ", "5", "ring 0", "6", "ring 0 2 0", "10", "ring 0 2 0 ", "11", "ring;", "4",
             "ring ;", "5", "ring0 2 0;", "4", "ring 0;", "6", "ring 0 2;", "8", "ring 0 2 0 0;", "11",
             "ring 0 2 0x;", "10", "ring 0002 2 0;", "8", "ring 0 2 0000;", "12", "ring 000 002 000;", "ok",
             "ring 0 2 -1;", "9", "ring 0 2 0;;", "11", ";", "0", " ;", "1", "Ring 0 2 0;", "0", "ring\t0 2 0;", "4",
@@ -965,7 +971,7 @@ final class PromiseTests {
             "put 0 \0", "6", "sign 1;sign 2;sing 3;", "14",
             "ring ;x", "5", "put 1;2 3;", "5", "put 1x;", "5"};
         for (int k = 0; k < texts.length; k += 2) {
-            HostageRings x = new HostageRings();
+            Engine x = new Engine();
             int answer = Check.run(x, texts[k]);
             if (texts[k + 1].equals("ok")) {
                 Check.isTrue("no fault in '" + texts[k] + "'", answer >= 0);
@@ -980,7 +986,7 @@ final class PromiseTests {
     }
 
     private static void textsAfterOthers() {
-        HostageRings x = new HostageRings();
+        Engine x = new Engine();
         String[] texts = {"rings 0 2 0;", "-10", "ring", "-14", "put 0 123;", "1", "put 0 12", "-18", "put 0 1;", "1",
             "put 0 1", "-17", "put", "-13", "put 0 45 ;", "1", "put 0 45 ", "-19", "", "0", "put 1 1;;", "-18",
             "put 1 1;", "1"};
@@ -988,23 +994,23 @@ final class PromiseTests {
             Check.equal("'" + texts[k] + "'", Integer.parseInt(texts[k + 1]), Check.run(x, texts[k]));
         }
         Check.rows("cells", Check.row(45, 1), cells(x, 0, 2));
-        Check.equal("states", 4, Check.states(x));
+        Check.equal("states", 4, x.states());
     }
 
     private static void undo() {
-        HostageRings x = new HostageRings();
+        Engine x = new Engine();
         Check.refused("an empty stack", x, NOT_NOW, x::undo);
         long[] heights = new long[7];
         for (int value = 1; value <= 7; value++) {
             x.write(0, value);
-            heights[value - 1] = Check.states(x);
+            heights[value - 1] = x.states();
         }
         Check.rows("heights", Check.row(1, 2, 3, 4, 4, 4, 4), heights);
         Check.type(x, "put 1 1;");
         for (int left = 3; left >= 0; left--) {
             Check.equal("left", left, x.undo());
             Check.equal("value", 3 + left, x.cell(0));
-            Check.equal("height", left, Check.states(x));
+            Check.equal("height", left, x.states());
         }
         Check.refused("no more than four", x, NOT_NOW, x::undo);
         Check.equal("the command text is not undone", 8, x.whole(14));
@@ -1017,7 +1023,7 @@ final class PromiseTests {
         x.undo();
         x.undo();
         Check.equal("in turn with others", 3, x.cell(0));
-        HostageRings y = twoRings(1);
+        Engine y = twoRings(1);
         y.move(0, 0, 1, 0, 4);
         long[] before = Check.view(y);
         y.pass(1);
@@ -1031,7 +1037,7 @@ final class PromiseTests {
         Check.rows("with its hostages", copying, Check.view(y));
         y.undo();
         Check.rows("before it started", before, Check.view(y));
-        HostageRings z = twoRings(0);
+        Engine z = twoRings(0);
         z.move(0, 0, 1, 0, 4);
         z.pass(1);
         long[] hostages = Check.view(z);
@@ -1053,7 +1059,7 @@ final class PromiseTests {
     }
 
     private static void digest() {
-        HostageRings x = new HostageRings();
+        Engine x = new Engine();
         long h = 43476;
         long[] start = new long[1 + 15 + 96 + 1];
         start[1 + 6] = 2;
@@ -1063,7 +1069,7 @@ final class PromiseTests {
         }
         Check.equal("a new object", h, x.digest());
         Check.equal("again", h, x.digest());
-        HostageRings y = twoRings(2);
+        Engine y = twoRings(2);
         y.move(0, 0, 1, 0, 4);
         y.move(1, 3, 0, 2, 2);
         y.move(0, 1, 0, 0, 3);
