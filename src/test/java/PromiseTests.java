@@ -959,7 +959,8 @@ final class PromiseTests {
     private static void faults() {
         String[] texts = {
             "rin", "0", "rings 0 2 0;", "0", "r", "0", "  ri ", "2", "put 0 1; wor", "9", "worked", "0",
-            "abc def;", "0", "ring", "4", "ring ", "5", "ring 0", "6", "ring 0 2 0", "10", "ring 0 2 0 ", "11", "ring;", "4",
+            "abc def;", "0", "ring", "4",
+            "ring ", "5", "ring 0", "6", "ring 0 2 0", "10", "ring 0 2 0 ", "11", "ring;", "4",
             "ring ;", "5", "ring0 2 0;", "4", "ring 0;", "6", "ring 0 2;", "8", "ring 0 2 0 0;", "11",
             "ring 0 2 0x;", "10", "ring 0002 2 0;", "8", "ring 0 2 0000;", "12", "ring 000 002 000;", "ok",
             "ring 0 2 -1;", "9", "ring 0 2 0;;", "11", ";", "0", " ;", "1", "Ring 0 2 0;", "0", "ring\t0 2 0;", "4",
