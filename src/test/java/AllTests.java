@@ -4,6 +4,7 @@ public final class AllTests {
     }
 
     public static void main(String[] args) {
+        ReadmeTests.all();
         FaceTests.all();
         PromiseTests.all();
         RingBoundaries.all();
@@ -11,6 +12,7 @@ public final class AllTests {
         TickBoundaries.all();
         QuestionBoundaries.all();
         TextBoundaries.all();
+        ForetoldTests.all();
         RandomRunTests.all();
         Check.close();
     }

@@ -27,6 +27,7 @@ final class FaceTests {
         Check.test("face: methods", FaceTests::methods);
         Check.test("face: constructor and constants", FaceTests::constructorAndConstants);
         Check.test("face: nothing else", FaceTests::nothingElse);
+        Check.test("face: its parts, each under its line", FaceTests::parts);
         Check.test("language: the source", FaceTests::source);
         Check.test("language: fields and parameters", FaceTests::fieldsAndParameters);
         Check.test("language: what calls make", FaceTests::whatCallsMake);
@@ -128,13 +129,29 @@ final class FaceTests {
         }
     }
 
-    private static String code() {
+    private static void parts() {
+        StringBuilder parts = new StringBuilder();
+        Matcher m = Pattern.compile("// ---- ([\\w ,]+)|\n    public (?:int|long) (\\w+)\\(").matcher(program());
+        while (m.find()) {
+            parts.append(m.group(1) == null ? " " + m.group(2) : " [" + m.group(1) + "]");
+        }
+        Check.isTrue("parts" + parts, parts.toString().equals(" [rings and memory] addRing setPatience set write"
+                + " [moves] move sign strike pass sweep"
+                + " [values] cell ring moveOf hostage cellSet held whole"
+                + " [what if, which changes nothing] reason waitsFor depth finalValue copiedIn stuck"
+                + " [command text, undo and checksum] type clearCommands runCommands undo digest"));
+    }
+
+    private static String program() {
         try {
-            String source = Files.readString(Path.of("src/main/java/HostageRings.java"));
-            return source.replaceAll("(?s)/\\*.*?\\*/", " ").replaceAll("//[^\n]*", " ");
+            return Files.readString(Path.of("src/main/java/HostageRings.java"));
         } catch (IOException e) {
             throw new IllegalStateException(e);
         }
+    }
+
+    private static String code() {
+        return program().replaceAll("(?s)/\\*.*?\\*/", " ").replaceAll("//[^\n]*", " ");
     }
 
     private static void source() {
